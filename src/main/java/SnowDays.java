@@ -22,8 +22,7 @@ public final class SnowDays {
     private static final int MILLION = 1000000;
 
     private final int[] text = new int[MOST_LETTERS];
-    private int letters = 0;
-    private int faultAt = NONE;
+    private int textLength = 0;
     private final Reader reader = new Reader(text);
     private final Tale tale = new Tale();
     private final Standing now = new Standing();
@@ -43,19 +42,18 @@ public final class SnowDays {
         if (isOut(letter, 0, 255)) {
             return OUTSIDE;
         }
-        if (letters >= MOST_LETTERS) {
+        if (textLength >= MOST_LETTERS) {
             return FULL;
         }
-        text[letters] = letter;
-        letters++;
-        return letters;
+        text[textLength] = letter;
+        textLength++;
+        return textLength;
     }
 
     public int valley() {
-        int length = letters;
-        letters = 0;
+        int length = textLength;
+        textLength = 0;
         int kind = reader.read(length);
-        faultAt = reader.faultAt;
         if (kind != Reader.SOUND) {
             return -10 - kind;
         }
@@ -69,7 +67,7 @@ public final class SnowDays {
     }
 
     public int fault() {
-        return faultAt;
+        return reader.faultAt;
     }
 
     public int told(int what) {
@@ -78,7 +76,7 @@ public final class SnowDays {
             case 1: return tale.villages;
             case 2: return tale.persons;
             case 3: return tale.debts;
-            case 4: return letters;
+            case 4: return textLength;
             case 5: return now.nights();
             case 6: return now.dueDebts(tale);
             case 7: return tale.greenNights();

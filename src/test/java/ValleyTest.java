@@ -9,6 +9,7 @@ public final class ValleyTest {
         tooMany();
         valleyMakesAnew();
         faultLeavesAll();
+        endOfText();
         told();
         winter();
         village();
@@ -232,6 +233,22 @@ public final class ValleyTest {
         Check.same("4: its letter", x.fault(), 2);
         Check.same("4: empty", x.valley(), 0);
         Check.same("4: none", x.fault(), Check.NONE);
+    }
+
+    /** What an earlier text left behind the end of this one is no part of it. */
+    private static void endOfText() {
+        SnowDays x = Check.of("n12;v0 0 0 0 1;");
+        Check.same("3: a shorter text", Check.valley(x, "n1"), -11);
+        Check.same("4: its end", x.fault(), 2);
+        Check.valley(x, "n   2;");
+        Check.same("3: a shorter text", Check.valley(x, "n "), -11);
+        Check.same("4: its end", x.fault(), 2);
+        Check.same("3: a full text that ends in a number", Check.valley(x, " ".repeat(238) + "n1"), -11);
+        Check.same("4: its end", x.fault(), 240);
+        Check.same("3: a full text of blanks", Check.valley(x, " ".repeat(240)), -11);
+        Check.same("4: its end", x.fault(), 240);
+        Check.same("3: a full text of figures", Check.valley(x, "n" + "1".repeat(239)), -12);
+        Check.same("4: its number", x.fault(), 1);
     }
 
     private static void told() {
