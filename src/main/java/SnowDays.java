@@ -520,14 +520,14 @@ public final class SnowDays {
             letters = text;
         }
 
-        /** The number of the first fault, SOUND if there is none; a text without a letter is a tale of nothing. */
+        /** The number of the first fault, SOUND if there is none. Blanks may stand anywhere: a text of them alone is a tale of nothing, too. */
         int read(int count) {
             length = Math.max(0, Math.min(count, letters.length));
             at = 0;
             kind = SOUND;
             faultAt = NONE;
             found.clear();
-            if (length > 0) {
+            if (nextWord() != NONE) {
                 readClauses();
             }
             return kind;

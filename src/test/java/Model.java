@@ -160,9 +160,7 @@ final class Model {
         String told = text.toString();
         text = new StringBuilder();
         try {
-            if (!told.isEmpty()) {
-                read.parse(told);
-            }
+            read.parse(told);
         } catch (Fault fault) {
             faultAt = fault.at;
             return -10 - fault.kind;
@@ -206,7 +204,7 @@ final class Model {
         List<Integer> found = new ArrayList<>();
         for (Token token : all) {
             if (clause.isEmpty()) {
-                if (token.letter() == NONE && !numbers.isEmpty()) {
+                if (token.letter() == NONE) {
                     return;
                 }
                 clause = begin(token);

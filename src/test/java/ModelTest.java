@@ -110,7 +110,7 @@ public final class ModelTest {
         int calls = 260;
         for (int k = 0; k < calls; k++) {
             if (below(90) == 0) {
-                makeValley(below(6) == 0 ? "" : below(3) == 0 ? soundText() + "q" : soundText());
+                makeValley(below(6) == 0 ? " ".repeat(below(3)) : below(3) == 0 ? soundText() + "q" : soundText());
                 k += 120;
             }
             doOne();

@@ -72,6 +72,9 @@ public final class ValleyTest {
 
     private static void soundTexts() {
         sound("", 0);
+        sound(" ", 0);
+        sound("   ", 0);
+        sound(" ".repeat(240), 0);
         sound("n0;", 0);
         sound("n40;", 0);
         sound("n040 , 000;", 0);
@@ -92,8 +95,8 @@ public final class ValleyTest {
     }
 
     private static void misplaced() {
-        faulty(" ", 1, 1);
-        faulty("   ", 1, 3);
+        faulty("   x", 1, 3);
+        faulty(" ; ", 1, 1);
         faulty("v0 0 0 0 1;", 1, 0);
         faulty("  p", 1, 2);
         faulty("1", 1, 0);
@@ -196,13 +199,31 @@ public final class ValleyTest {
         Check.same("3: images are gone", x.goBack(1), Check.NOT);
         Check.same("3: nothing to undo", x.undo(), Check.NOT);
         Check.same("3: the seed stays", x.seed(1), 77);
-        x.night(2);
+        noValleyBy("");
+        noValleyBy(" ");
+        noValleyBy(" ".repeat(240));
+    }
+
+    private static void noValleyBy(String text) {
+        SnowDays x = Check.of(Check.SLOPE);
+        x.seed(77);
+        x.night(7);
+        x.say(0, 5);
+        x.write(1, 5);
         x.keep(0);
-        Check.same("3: an empty text", x.valley(), 0);
-        Check.same("3: no valley", x.told(0) + x.told(1) + x.told(2) + x.told(3) + x.told(5) + x.told(7), 0);
-        Check.same("3: no valley, images", x.goBack(0), Check.NOT);
-        Check.same("3: no valley, the seed", x.seed(1), 1);
-        Check.same("3: no valley, nights", x.night(1), Check.NOT);
+        x.night(1);
+        Check.valley(x, "n1");
+        String by = "3: no valley by " + text.length() + " blanks, ";
+        Check.same(by + "villages", Check.valley(x, text), 0);
+        Check.same(by + "fault", x.fault(), Check.NONE);
+        for (int what = 0; what <= 10; what++) {
+            Check.same(by + "told(" + what + ")", x.told(what), 0);
+        }
+        Check.same(by + "winter", x.winter(0), Check.NOT);
+        Check.same(by + "images", x.goBack(0), Check.NOT);
+        Check.same(by + "undo", x.undo(), Check.NOT);
+        Check.same(by + "nights", x.night(1), Check.NOT);
+        Check.same(by + "the seed stays", x.seed(1), 77);
     }
 
     private static void faultLeavesAll() {
@@ -245,8 +266,10 @@ public final class ValleyTest {
         Check.same("4: its end", x.fault(), 2);
         Check.same("3: a full text that ends in a number", Check.valley(x, " ".repeat(238) + "n1"), -11);
         Check.same("4: its end", x.fault(), 240);
-        Check.same("3: a full text of blanks", Check.valley(x, " ".repeat(240)), -11);
+        Check.same("3: a full text but for its last letter", Check.valley(x, " ".repeat(239) + "n"), -11);
         Check.same("4: its end", x.fault(), 240);
+        Check.same("3: blanks over an earlier text", Check.valley(x, "  "), 0);
+        Check.same("4: none", x.fault(), Check.NONE);
         Check.same("3: a full text of figures", Check.valley(x, "n" + "1".repeat(239)), -12);
         Check.same("4: its number", x.fault(), 1);
     }
