@@ -8,7 +8,10 @@ public final class DoneTest {
         pay();
         lend();
         drift();
+        drawsOfInches();
+        manyAtOnce();
         undo();
+        undoEachAlone();
         lostPast();
         refusedIsNotUndone();
         Check.finish("DoneTest");
@@ -167,6 +170,83 @@ public final class DoneTest {
             Check.same("15: sawed", x.village(v, 5), sawed[v]);
         }
         Check.same("15: the seed", x.seed(0), seed);
+    }
+
+    /** "in each a DRAW of 41 INCHES": from 0 to 40, both come. */
+    private static void drawsOfInches() {
+        SnowDays x = Check.of("n0;v0 0 0 0 1;");
+        int seed = 0;
+        int least = 40;
+        int most = 0;
+        int fell = 0;
+        for (int k = 0; k < 300; k++) {
+            x.drift(1);
+            seed = next(seed);
+            int inches = seed / 65536 % 41;
+            fell += inches;
+            least = Math.min(least, inches);
+            most = Math.max(most, inches);
+            seed = next(seed);
+            seed = seed / 65536 % 4 == 0 ? next(seed) : seed;
+        }
+        Check.same("15: the least that was drawn", least, 0);
+        Check.same("15: the most that was drawn", most, 40);
+        Check.same("15: all that fell", x.village(0, 4), fell);
+    }
+
+    private static void manyAtOnce() {
+        SnowDays x = Check.of(Check.SLOPE);
+        SnowDays y = Check.of(Check.SLOPE);
+        x.night(60);
+        x.drift(60);
+        for (int k = 0; k < 60; k++) {
+            y.night(1);
+        }
+        for (int k = 0; k < 60; k++) {
+            y.drift(1);
+        }
+        for (int v = 0; v < 3; v++) {
+            for (int what = 2; what <= 5; what++) {
+                Check.same("10, 15: sixty at once as one by one", x.village(v, what), y.village(v, what));
+            }
+            Check.same("10, 15: FALLS since birth", x.person(v, 1), y.person(v, 1));
+        }
+        Check.same("15: the seed", x.seed(0), y.seed(0));
+        Check.same("16: sixty at once are one", x.told(10), 2);
+        Check.same("16: one by one, 20 at most", y.told(10), 20);
+        x.undo();
+        Check.same("16: sixty are undone at once", x.told(5), 60);
+    }
+
+    /** Each of the six alone, undone at once, and a last one that could not be: nothing is left of it. */
+    private static void undoEachAlone() {
+        SnowDays x = Check.of("n9;v0 1 1 1 4;v0 1 1 1 2;p0 4;d0 9;");
+        x.move(0, 1);
+        Check.same("16: move", x.undo(), 0);
+        Check.same("16: where he was", x.person(0, 0), 0);
+        x.saw(0, 99);
+        Check.same("16: saw", x.undo(), 0);
+        Check.same("16: what was sawed", x.village(0, 5), 0);
+        x.night(60);
+        Check.same("16: night", x.undo(), 0);
+        Check.same("16: nights", x.told(5), 0);
+        x.drift(60);
+        int seed = x.seed(0);
+        x.seed(seed);
+        Check.same("16: drift", x.undo(), 0);
+        Check.same("16: nights", x.told(5), 0);
+        Check.same("16: inches", x.village(0, 4), 0);
+        Check.same("16: sawed", x.village(0, 5) + x.village(1, 5), 0);
+        Check.same("16: \"THE SEED stays\"", x.seed(seed), seed);
+        x.night(1);
+        x.pay(0);
+        Check.same("16: pay", x.undo(), 1);
+        Check.same("16: it is due", x.debt(0, 3), 1);
+        x.pay(0);
+        x.lend(0, 5);
+        Check.same("16: lend", x.undo(), 2);
+        Check.same("16: it is paid", x.debt(0, 1), 0);
+        Check.same("16: lent anew", x.lend(0, 6), 1);
     }
 
     private static void undo() {

@@ -4,10 +4,14 @@ public final class ToldTest {
         say();
         sawn();
         sawnWhereHeIs();
+        sawnOfAll();
+        sawnOfOthers();
+        everyAgeCounts();
         ask();
         write();
         tear();
         judge();
+        fullBook();
         seed();
         images();
         imagesWithoutValley();
@@ -84,6 +88,57 @@ public final class ToldTest {
         all(x, "he went: 3 and 4 less k", 13);
     }
 
+    private static void sawnOfAll() {
+        SnowDays four = Check.of("n9;" + "v0 1 1 1 1;".repeat(4));
+        Check.same("27: four VILLAGES, k 0 .. 9", four.sawn(-1), 40);
+        for (int i = 0; i < 40; i++) {
+            Check.same("27: sawn(" + i + ") of all", four.sawn(i), i);
+        }
+        Check.same("27: behind the last", four.sawn(40), Check.NONE);
+        SnowDays none = Check.of("n9;");
+        Check.same("27: no VILLAGES", none.sawn(-1), 0);
+        Check.same("27: no VILLAGES", none.sawn(0), Check.NONE);
+        Check.same("28: no VILLAGES", none.ask(), Check.NONE);
+    }
+
+    /** "of that one VILLAGE k sawed off, of the others what is" */
+    private static void sawnOfOthers() {
+        SnowDays x = Check.of("n9;v0 1 1 1 1;v0 1 1 1 1;p0 0;p1 0;");
+        x.night(30);
+        x.saw(0, 25);
+        x.say(0, 5);
+        all(x, "25 sawed, 5 told: it is the other", 10, 11, 12, 13, 14, 15, 16, 17, 18, 19);
+        x.say(1, 21);
+        all(x, "nine of the other", 19);
+        x.tear();
+        x.say(1, 20);
+        all(x, "ten is more than nine");
+        x.tear();
+        x.say(0, 30);
+        all(x, "k 0: none was sawed", 0);
+        x.say(1, 30);
+        all(x, "k 0, and of the other what is", 0);
+        x.saw(1, 1);
+        all(x, "the other is sawed, too");
+    }
+
+    private static void everyAgeCounts() {
+        SnowDays x = Check.of("n9;v0 1 1 1 1;p0 0;");
+        x.night(20);
+        for (int k = 1; k <= 6; k++) {
+            Check.same("26: how many", x.say(0, 17), k);
+            Check.same("27: alike told again", x.sawn(-1), 1);
+        }
+        Check.same("26: a seventh", x.say(0, 16), Check.FULL);
+        Check.same("27: it is not told", x.sawn(0), 3);
+        Check.same("30: six", x.tear(), 6);
+        for (int k = 0; k < 5; k++) {
+            x.say(0, 17);
+        }
+        x.say(0, 16);
+        Check.same("27: the sixth counts", x.sawn(-1), 0);
+    }
+
     private static void ask() {
         Check.same("28: nobody", Check.of("n9;v0 1 1 1 4;").ask(), Check.NONE);
         SnowDays x = Check.of("n9;v0 1 1 1 40;v0 1 1 1 3;v0 1 1 1 2;p0 0;p1 0;p2 0;p2 1;");
@@ -106,6 +161,14 @@ public final class ToldTest {
         first.say(1, 11);
         Check.same("28: a single one is left", first.sawn(-1), 1);
         Check.same("28: a single one is left", first.ask(), Check.NONE);
+        SnowDays two = Check.of("n9;v0 1 1 1 2;p0 0;p0 1;");
+        two.night(3);
+        two.say(0, 1);
+        Check.same("28: two are left", two.sawn(-1), 2);
+        Check.same("28: the other parts them", two.ask(), 1);
+        two.say(1, 2);
+        Check.same("28: one is left", two.sawn(-1), 1);
+        Check.same("28: one is left", two.ask(), Check.NONE);
     }
 
     private static void write() {
@@ -152,6 +215,27 @@ public final class ToldTest {
         Check.same("31: by what the pole tells", x.judge(), 1);
         x.undo();
         Check.same("31: undone", x.judge(), 0);
+    }
+
+    private static void fullBook() {
+        SnowDays x = Check.of("n9;v0 1 1 1 4;p0 0;");
+        for (int k = 1; k <= 14; k++) {
+            x.write(0, 0);
+        }
+        Check.same("31: fourteen are right", x.judge(), Check.NONE);
+        Check.same("29: the fifteenth", x.write(0, 1), 15);
+        Check.same("31: the fifteenth is wrong", x.judge(), 14);
+        Check.same("29: a sixteenth", x.write(0, 0), Check.FULL);
+        x.night(1);
+        Check.same("31: now all but the fifteenth", x.judge(), 0);
+        for (int k = 0; k < 6; k++) {
+            x.say(0, 0);
+        }
+        Check.same("30: six and fifteen", x.tear(), 21);
+        Check.same("30: twice", x.tear(), 0);
+        Check.same("29: it is empty", x.write(0, 1), 1);
+        Check.same("26: none were told", x.say(0, 0), 1);
+        Check.same("31: right", x.judge(), Check.NONE);
     }
 
     private static void seed() {

@@ -95,6 +95,10 @@ public final class TriedTest {
         Check.same("19: at 200", late.feast(0, 1), 200);
         late.undo();
         Check.same("19: at 260", late.feast(0, 1), Check.NONE);
+        late.night(59);
+        Check.same("19: at 201", late.feast(0, 1), Check.NONE);
+        late.night(2);
+        Check.same("19: at 199", late.feast(0, 1), 199);
     }
 
     private static void mild() {
@@ -145,6 +149,10 @@ public final class TriedTest {
         Check.same("21: from now, 3 and 6 of 9", x.mildDebts(2, 2), 2 | 4 | 8);
         Check.same("21: from now, 2 and 5 of 9", x.mildDebts(3, 2), 1 | 2 | 4 | 8);
         Check.same("21: nothing changed", x.told(5), 2);
+        SnowDays half = Check.of("n9;v0 0 0 0 1;d0 18;");
+        half.night(1);
+        Check.same("21: for no night, from now", half.mildDebts(1, 0), 0);
+        Check.same("21: for one, from now", half.mildDebts(1, 1), 1);
     }
 
     private static void older() {
@@ -192,6 +200,7 @@ public final class TriedTest {
         Check.same("23: paid", x.chance(0, 1), Check.NOT);
         Check.same("23: paid, OUTSIDE first", x.chance(0, 31), Check.OUTSIDE);
         Check.same("23: nothing changed", x.told(5), 3);
+        justDue();
         Check.same("23: sure", Check.of("n40;v0 0 0 0 1;d0 999;").chance(0, 25), 1000000);
         Check.same("23: sure, a night ahead", Check.of("n40;v0 0 0 0 1;d0 999;").chance(0, 24), 0);
         SnowDays twenty = Check.of("n1" + ",0".repeat(19) + ";v0 0 0 0 1;d0 1;");
@@ -202,6 +211,25 @@ public final class TriedTest {
             due += rest / 20;
             rest = rest / 20 * 19;
         }
+    }
+
+    private static void justDue() {
+        SnowDays x = Check.of("n5,0;v0 0 0 0 1;d0 5;d0 4;d0 6;d0 10;");
+        x.night(1);
+        Check.same("23: it lacks 0", x.chance(0, 0), 1000000);
+        Check.same("23: \"0 at least\"", x.chance(1, 0), 1000000);
+        Check.same("23: \"0 at least\", what lies at 0 is not parted", x.chance(1, 30), 1000000);
+        Check.same("23: it lacks 1", x.chance(2, 0), 0);
+        Check.same("23: it lacks 1, and more comes", x.chance(2, 1), 500000);
+        Check.same("23: it lacks just what comes", x.chance(3, 1), 500000);
+        int lies = 1000000;
+        int due = 0;
+        for (int n = 0; n <= 30; n++) {
+            Check.same("23: \"cut, the rest is lost\", behind " + n, x.chance(3, n), due);
+            due += lies / 2;
+            lies /= 2;
+        }
+        Check.holds("23: some was lost", due < 1000000);
     }
 
     private static void poles() {
