@@ -20,7 +20,7 @@ public final class FaceTest {
     public static void main(String[] args) throws Exception {
         face();
         names();
-        source(Files.readString(Path.of(System.getProperty("source")), StandardCharsets.UTF_8));
+        source(Files.readString(Path.of(System.getProperty("root"), "src/main/java/SnowDays.java"), StandardCharsets.UTF_8));
         room();
         Check.finish("FaceTest");
     }
@@ -87,18 +87,20 @@ public final class FaceTest {
         }
     }
 
-    /** What the calls themselves make: nothing, so a run's room is what the constructor made. */
+    /** The calls themselves make nothing, so a run's room is what the constructors made: 4096 numbers each at most. */
     private static void room() {
         com.sun.management.ThreadMXBean bean = (com.sun.management.ThreadMXBean) java.lang.management.ManagementFactory.getThreadMXBean();
-        SnowDays x = Check.of(Check.SLOPE);
-        long thread = Thread.currentThread().getId();
+        everyCall(Check.of(Check.SLOPE));
+        long ahead = bean.getCurrentThreadAllocatedBytes();
+        SnowDays x = new SnowDays();
+        long made = bean.getCurrentThreadAllocatedBytes() - ahead;
+        Check.holds("an object is small, not " + made + " bytes", made < 4096 * Integer.BYTES);
         everyCall(x);
-        long ahead = bean.getThreadAllocatedBytes(thread);
-        for (int k = 0; k < 10; k++) {
-            everyCall(x);
-        }
-        long made = bean.getThreadAllocatedBytes(thread) - ahead;
-        Check.holds("the calls make next to nothing, not " + made + " bytes", made < 4096);
+        ahead = bean.getCurrentThreadAllocatedBytes();
+        everyCall(x);
+        everyCall(x);
+        made = bean.getCurrentThreadAllocatedBytes() - ahead;
+        Check.holds("the calls make next to nothing, not " + made + " bytes", made < 1024);
     }
 
     private static void everyCall(SnowDays x) {

@@ -1,7 +1,13 @@
 import java.util.Random;
 
-/** Runs of calls by fixed draws, on the class and on the model: every answer is the same, and nothing is thrown. */
+/**
+ * Runs of calls by fixed draws, on the class and on the model: every answer is the same, and nothing is thrown. A run ends at
+ * the 512th call: "what later calls answer is free".
+ */
 public final class ModelTest {
+    private static final int MOST_CALLS = 512;
+    private static final int CALLS_OF_LAST_LOOK = 140;
+    private static final int CALLS_OF_ONE_ROUND = 12;
     private static final int[] EDGES = {-1, 0, 1, 2, 3, 4, 5, 6, 7, 9, 10, 11, 20, 30, 31, 40, 41, 60, 61, 99, 100, 200, 201, 999, 1000, 9999, 10000,
             -2, 255, 256, Integer.MAX_VALUE, Integer.MIN_VALUE};
 
@@ -9,6 +15,7 @@ public final class ModelTest {
     private final SnowDays x = new SnowDays();
     private final Model model = new Model();
     private final String run;
+    private int calls = 0;
 
     private ModelTest(int run) {
         this.random = new Random(run);
@@ -16,7 +23,7 @@ public final class ModelTest {
     }
 
     public static void main(String[] args) {
-        for (int run = 0; run < 400; run++) {
+        for (int run = 0; run < 1000; run++) {
             new ModelTest(run).play();
         }
         for (int run = 1000; run < 21000; run++) {
@@ -25,20 +32,29 @@ public final class ModelTest {
         Check.finish("ModelTest");
     }
 
+    private void same(String call, int got, int want) {
+        calls++;
+        Check.same(run + call, got, want);
+    }
+
+    private boolean hasRoomFor(int more) {
+        return calls + more <= MOST_CALLS - CALLS_OF_LAST_LOOK;
+    }
+
     private int below(int n) {
         return random.nextInt(n);
     }
 
     private void feed(String text) {
         for (int k = 0; k < text.length(); k++) {
-            Check.same(run + "feed", x.feed(text.charAt(k)), model.feed(text.charAt(k)));
+            same("feed", x.feed(text.charAt(k)), model.feed(text.charAt(k)));
         }
     }
 
     private void makeValley(String text) {
         feed(text);
-        Check.same(run + "valley of " + text, x.valley(), model.valley());
-        Check.same(run + "fault of " + text, x.fault(), model.fault());
+        same("valley of " + text, x.valley(), model.valley());
+        same("fault of " + text, x.fault(), model.fault());
     }
 
     private String blanks() {
@@ -88,10 +104,10 @@ public final class ModelTest {
         }
         makeValley(text.toString());
         for (int what = 0; what <= 4; what++) {
-            Check.same(run + "told(" + what + ")", x.told(what), model.told(what));
+            same("told(" + what + ")", x.told(what), model.told(what));
         }
         for (int v = 0; v < 4; v++) {
-            Check.same(run + "village(" + v + ", 6)", x.village(v, 6), model.village(v, 6));
+            same("village(" + v + ", 6)", x.village(v, 6), model.village(v, 6));
         }
     }
 
@@ -107,17 +123,22 @@ public final class ModelTest {
         if (below(5) != 0) {
             makeValley(soundText());
         }
-        int calls = 260;
-        for (int k = 0; k < calls; k++) {
-            if (below(90) == 0) {
-                makeValley(below(6) == 0 ? " ".repeat(below(3)) : below(3) == 0 ? soundText() + "q" : soundText());
-                k += 120;
+        while (hasRoomFor(CALLS_OF_ONE_ROUND)) {
+            if (below(60) == 0) {
+                makeAnother(below(6) == 0 ? " ".repeat(below(3)) : below(3) == 0 ? soundText() + "q" : soundText());
             }
             doOne();
             lookAtOne();
             lookAtOne();
         }
         lookAtAll();
+        Check.holds(run + calls + " calls are 512 at most", calls <= MOST_CALLS);
+    }
+
+    private void makeAnother(String text) {
+        if (hasRoomFor(text.length() + CALLS_OF_ONE_ROUND)) {
+            makeValley(text);
+        }
     }
 
     private void doOne() {
@@ -125,13 +146,13 @@ public final class ModelTest {
         int b = number(5);
         int n = number(62);
         switch (below(16)) {
-            case 0, 1, 2 -> Check.same(run + "night(" + n + ")", x.night(n), model.night(n));
-            case 3, 4 -> Check.same(run + "move", x.move(a, b), model.move(a, b));
-            case 5 -> Check.same(run + "saw", x.saw(b, a), model.saw(b, a));
-            case 6, 7 -> Check.same(run + "pay", x.pay(b), model.pay(b));
-            case 8 -> Check.same(run + "lend", x.lend(b, n), model.lend(b, n));
-            case 9 -> Check.same(run + "drift(" + n + ")", x.drift(n), model.drift(n));
-            case 10, 11 -> Check.same(run + "undo", x.undo(), model.undo());
+            case 0, 1, 2 -> same("night(" + n + ")", x.night(n), model.night(n));
+            case 3, 4 -> same("move", x.move(a, b), model.move(a, b));
+            case 5 -> same("saw", x.saw(b, a), model.saw(b, a));
+            case 6, 7 -> same("pay", x.pay(b), model.pay(b));
+            case 8 -> same("lend", x.lend(b, n), model.lend(b, n));
+            case 9 -> same("drift(" + n + ")", x.drift(n), model.drift(n));
+            case 10, 11 -> same("undo", x.undo(), model.undo());
             case 12 -> sayOne(a);
             case 13 -> writeOne(b);
             case 14 -> imageOne(number(2));
@@ -141,27 +162,27 @@ public final class ModelTest {
 
     private void sayOne(int p) {
         int age = below(3) == 0 ? number(30) : Math.max(0, model.person(p, 2) + below(3) - 1);
-        Check.same(run + "say", x.say(p, age), model.say(p, age));
+        same("say", x.say(p, age), model.say(p, age));
     }
 
     private void writeOne(int v) {
         int pole = below(3) == 0 ? number(30) : Math.max(0, model.village(v, 3));
-        Check.same(run + "write", x.write(v, pole), model.write(v, pole));
+        same("write", x.write(v, pole), model.write(v, pole));
     }
 
     private void imageOne(int i) {
         if (below(2) == 0) {
-            Check.same(run + "keep(" + i + ")", x.keep(i), model.keep(i));
+            same("keep(" + i + ")", x.keep(i), model.keep(i));
         } else {
-            Check.same(run + "goBack(" + i + ")", x.goBack(i), model.goBack(i));
+            same("goBack(" + i + ")", x.goBack(i), model.goBack(i));
         }
     }
 
     private void tearOrSeed(int v) {
         if (below(3) == 0) {
-            Check.same(run + "tear", x.tear(), model.tear());
+            same("tear", x.tear(), model.tear());
         } else {
-            Check.same(run + "seed(" + v + ")", x.seed(v), model.seed(v));
+            same("seed(" + v + ")", x.seed(v), model.seed(v));
         }
     }
 
@@ -172,43 +193,55 @@ public final class ModelTest {
         int m = number(42);
         int what = number(11);
         switch (below(19)) {
-            case 0 -> Check.same(run + "told(" + what + ")", x.told(what), model.told(what));
-            case 1 -> Check.same(run + "winter(" + n + ")", x.winter(n), model.winter(n));
-            case 2, 3 -> Check.same(run + "village", x.village(b, what % 8), model.village(b, what % 8));
-            case 4, 5 -> Check.same(run + "person", x.person(a, what % 4), model.person(a, what % 4));
-            case 6 -> Check.same(run + "debt", x.debt(b, what % 5), model.debt(b, what % 5));
-            case 7 -> Check.same(run + "due", x.due(b), model.due(b));
-            case 8 -> Check.same(run + "old", x.old(a, n), model.old(a, n));
-            case 9, 10 -> Check.same(run + "feast", x.feast(b, a), model.feast(b, a));
-            case 11 -> Check.same(run + "mild", x.mild(a, m, n), model.mild(a, m, n));
-            case 12 -> Check.same(run + "mildDebts", x.mildDebts(m, n), model.mildDebts(m, n));
-            case 13 -> Check.same(run + "older", x.older(a, b), model.older(a, b));
-            case 14 -> Check.same(run + "chance", x.chance(b, m), model.chance(b, m));
-            case 15 -> Check.same(run + "poles", x.poles(), model.poles());
-            case 16 -> Check.same(run + "longest", x.longest(b), model.longest(b));
-            case 17 -> Check.same(run + "sawn(" + what + ")", x.sawn(what - 1), model.sawn(what - 1));
+            case 0 -> same("told(" + what + ")", x.told(what), model.told(what));
+            case 1 -> same("winter(" + n + ")", x.winter(n), model.winter(n));
+            case 2, 3 -> same("village", x.village(b, what % 8), model.village(b, what % 8));
+            case 4, 5 -> same("person", x.person(a, what % 4), model.person(a, what % 4));
+            case 6 -> same("debt", x.debt(b, what % 5), model.debt(b, what % 5));
+            case 7 -> same("due", x.due(b), model.due(b));
+            case 8 -> same("old", x.old(a, n), model.old(a, n));
+            case 9, 10 -> same("feast", x.feast(b, a), model.feast(b, a));
+            case 11 -> same("mild", x.mild(a, m, n), model.mild(a, m, n));
+            case 12 -> same("mildDebts", x.mildDebts(m, n), model.mildDebts(m, n));
+            case 13 -> same("older", x.older(a, b), model.older(a, b));
+            case 14 -> same("chance", x.chance(b, m), model.chance(b, m));
+            case 15 -> same("poles", x.poles(), model.poles());
+            case 16 -> same("longest", x.longest(b), model.longest(b));
+            case 17 -> same("sawn(" + what + ")", x.sawn(what - 1), model.sawn(what - 1));
             default -> askAndJudge();
         }
     }
 
     private void askAndJudge() {
-        Check.same(run + "ask", x.ask(), model.ask());
-        Check.same(run + "sawn(-1)", x.sawn(-1), model.sawn(-1));
-        Check.same(run + "judge", x.judge(), model.judge());
+        same("ask", x.ask(), model.ask());
+        same("sawn(-1)", x.sawn(-1), model.sawn(-1));
+        same("judge", x.judge(), model.judge());
     }
 
     private void lookAtAll() {
-        for (int what = -1; what <= 11; what++) {
-            Check.same(run + "told(" + what + ")", x.told(what), model.told(what));
-            for (int k = -1; k <= 6; k++) {
-                Check.same(run + "village(" + k + ", " + what + ")", x.village(k, what), model.village(k, what));
-                Check.same(run + "person(" + k + ", " + what + ")", x.person(k, what), model.person(k, what));
-                Check.same(run + "debt(" + k + ", " + what + ")", x.debt(k, what), model.debt(k, what));
+        for (int what = 0; what <= 10; what++) {
+            same("told(" + what + ")", x.told(what), model.told(what));
+        }
+        for (int k = 0; k < 6; k++) {
+            for (int what = 0; what <= 6; what++) {
+                lookAtPart(k, what);
             }
         }
         for (int i = -2; i <= 41; i++) {
-            Check.same(run + "sawn(" + i + ")", x.sawn(i), model.sawn(i));
+            same("sawn(" + i + ")", x.sawn(i), model.sawn(i));
         }
         askAndJudge();
+    }
+
+    private void lookAtPart(int k, int what) {
+        if (k < 4) {
+            same("village(" + k + ", " + what + ")", x.village(k, what), model.village(k, what));
+        }
+        if (what < 3) {
+            same("person(" + k + ", " + what + ")", x.person(k, what), model.person(k, what));
+        }
+        if (what < 4 && k < 5) {
+            same("debt(" + k + ", " + what + ")", x.debt(k, what), model.debt(k, what));
+        }
     }
 }

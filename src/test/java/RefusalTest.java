@@ -313,8 +313,9 @@ public final class RefusalTest {
         for (int k = 0; k < 6; k++) {
             x.say(1, 6);
         }
+        int pole = x.village(1, 3);
         for (int k = 0; k < 15; k++) {
-            x.write(1, x.village(1, 3) + k / 14);
+            x.write(1, pole + k / 14);
         }
         Check.feed(x, "n7;" + " ".repeat(237));
         return x;
@@ -323,7 +324,9 @@ public final class RefusalTest {
     private static SnowDays pastAllNights() {
         SnowDays x = Check.of("n0,5;v0 1 4 9 4;v3 2 2 6 3;p0 20;d0 30;");
         x.seed(9);
-        Check.nights(x, 9000);
+        Check.nights(x, 8999);
+        x.keep(0);
+        x.night(1);
         x.night(1);
         return x;
     }

@@ -264,14 +264,16 @@ public final class ValleyTest {
         Check.valley(x, "n   2;");
         Check.same("3: a shorter text", Check.valley(x, "n "), -11);
         Check.same("4: its end", x.fault(), 2);
-        Check.same("3: a full text that ends in a number", Check.valley(x, " ".repeat(238) + "n1"), -11);
-        Check.same("4: its end", x.fault(), 240);
-        Check.same("3: a full text but for its last letter", Check.valley(x, " ".repeat(239) + "n"), -11);
-        Check.same("4: its end", x.fault(), 240);
         Check.same("3: blanks over an earlier text", Check.valley(x, "  "), 0);
         Check.same("4: none", x.fault(), Check.NONE);
-        Check.same("3: a full text of figures", Check.valley(x, "n" + "1".repeat(239)), -12);
-        Check.same("4: its number", x.fault(), 1);
+        SnowDays full = new SnowDays();
+        Check.same("3: a full text that ends in a number", Check.valley(full, " ".repeat(238) + "n1"), -11);
+        Check.same("4: its end", full.fault(), 240);
+        Check.same("3: a full text but for its last letter", Check.valley(full, " ".repeat(239) + "n"), -11);
+        Check.same("4: its end", full.fault(), 240);
+        SnowDays figures = new SnowDays();
+        Check.same("3: a full text of figures", Check.valley(figures, "n" + "1".repeat(239)), -12);
+        Check.same("4: its number", figures.fault(), 1);
     }
 
     private static void told() {
